@@ -1,0 +1,122 @@
+/** Promises 11 to 14: what is told of the latest call and the latest word. */
+final class LatestCallTest {
+    public static void main(String[] args) {
+        promises11And12Calls();
+        promises11And12FailedCallsDoNotCount();
+        promises13And14NoWord();
+        promises13And14Words();
+        promises13And14Noise();
+        Check.finish("LatestCallTest");
+    }
+
+    private static void calls(LinkEstablisher x, int attempts, int lastChannel) {
+        Check.due("attempts()", x.attempts(), attempts);
+        Check.due("lastChannel()", x.lastChannel(), lastChannel);
+    }
+
+    private static void words(LinkEstablisher x, int unanimous, int voted) {
+        Check.due("lastUnanimous()", x.lastUnanimous(), unanimous);
+        Check.due("lastVoted()", x.lastVoted(), voted);
+    }
+
+    private static void promises11And12Calls() {
+        LinkEstablisher x = Check.quiet();
+        calls(x, 0, -1);
+        x.sound(0, 4);
+        calls(x, 0, -1);
+        x.setScan(1, 32);
+        Check.due("call(0, 1)", x.call(0, 1), 5);
+        calls(x, 6, 5);
+        Check.due("netCall(2, 8)", x.netCall(2, 8), 8);
+        calls(x, 1, 0);
+        x.hangUp(0);
+        x.sound(0, 7);
+        calls(x, 1, 0);
+        x.setScan(4, 128);
+        x.setScan(0, 64);
+        Check.due("call(4, 0)", x.call(4, 0), -1);
+        calls(x, 1, 7);
+        x.setScan(4, 7);
+        Check.due("call(4, 0)", x.call(4, 0), -1);
+        calls(x, 3, 2);
+        Check.due("netCall(4, 1)", x.netCall(4, 1), 0);
+        calls(x, 1, 0);
+        x.undo();
+        calls(x, 3, 2);
+    }
+
+    private static void promises11And12FailedCallsDoNotCount() {
+        LinkEstablisher x = Check.quiet();
+        Check.due("call(0, 0)", x.call(0, 0), -2);
+        Check.due("netCall(0, 1)", x.netCall(0, 1), -2);
+        calls(x, 0, -1);
+        x.setScan(1, 4);
+        Check.due("call(0, 1)", x.call(0, 1), 2);
+        Check.due("call(0, 2)", x.call(0, 2), -3);
+        Check.due("netCall(0, 4)", x.netCall(0, 4), -3);
+        calls(x, 3, 2);
+    }
+
+    private static void promises13And14NoWord() {
+        LinkEstablisher x = new LinkEstablisher();
+        words(x, -1, -1);
+        x.setScan(0, 1);
+        x.setScan(1, 2);
+        Check.due("call(0, 1)", x.call(0, 1), -1);
+        words(x, -1, -1);
+        Check.due("vote(7, 7, 7)", x.vote(7, 7, 7), 7);
+        words(x, -1, -1);
+    }
+
+    private static void promises13And14Words() {
+        LinkEstablisher x = Check.quiet();
+        x.sound(4, 0);
+        words(x, 24, 65536 * LinkEstablisher.SOUND + 256 * 255 + 4);
+        x.call(1, 0);
+        words(x, 24, 65536 * LinkEstablisher.ACKNOWLEDGE + 256 * 0 + 1);
+        x.netCall(3, 16);
+        words(x, 24, 65536 * LinkEstablisher.ACKNOWLEDGE + 256 * 255 + 3);
+        x.hangUp(0);
+        x.pass(3);
+        words(x, 24, 65536 * LinkEstablisher.ACKNOWLEDGE + 256 * 255 + 3);
+        x.undo();
+        x.undo();
+        x.undo();
+        words(x, 24, 65536 * LinkEstablisher.ACKNOWLEDGE + 256 * 0 + 1);
+    }
+
+    /** CALL, RESPONSE and ACKNOWLEDGE words stay in sight where they are the last that was sent. */
+    private static void promises13And14Noise() {
+        for (int quality = 0; quality <= 30; quality++) {
+            LinkEstablisher x = new LinkEstablisher();
+            x.setScan(0, 1);
+            x.setScan(1, 1);
+            x.setQuality(0, 1, 0, quality);
+            x.setNoise(1000 + quality);
+            x.call(0, 1);
+            int sent = x.transmitted();
+            int address = sent == 2 ? 0 : 1;
+            int word = 65536 * (sent + 1) + 256 * address + (1 - address);
+            int[] copies = copies(word, quality, Check.noiseAfter(1000 + quality, 72 * (sent - 1)));
+            int unanimous = 0;
+            for (int bit = 0; bit < 24; bit++) {
+                int ones = (copies[0] >> bit & 1) + (copies[1] >> bit & 1) + (copies[2] >> bit & 1);
+                unanimous += ones % 3 == 0 ? 1 : 0;
+            }
+            words(x, unanimous, x.vote(copies[0], copies[1], copies[2]));
+            Check.due("digest(): the noise state", x.digest(),
+                Check.digestOf(x, 4, 10, Check.noiseAfter(1000 + quality, 72 * sent)));
+        }
+    }
+
+    private static int[] copies(int word, int quality, int noise) {
+        int[] copies = {word, word, word};
+        for (int i = 0; i < 72; i++) {
+            noise = Check.noiseAfter(noise, 1);
+            if (2 * (noise / 65536 % 31) > 30 + quality) {
+                copies[i / 24] ^= 1 << i % 24;
+            }
+        }
+        return copies;
+    }
+}
