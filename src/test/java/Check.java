@@ -20,8 +20,8 @@ final class Check {
         }
     }
 
-    static void holds(String what, boolean true_) {
-        due(what, true_ ? 1 : 0, 1);
+    static void holds(String what, boolean fact) {
+        due(what, fact ? 1 : 0, 1);
     }
 
     /** A wrong call answers the code, and leaves the object as another wrong call of that kind does. */
@@ -66,7 +66,10 @@ final class Check {
         refused(what + " with " + value, history, LinkEstablisher.INVALID, call.apply(value));
     }
 
-    /** The digest as promise 30 tells it, from the other answers and what no answer tells. */
+    /**
+     * The digest as promise 30 tells it, from the other answers and what no answer tells. It takes 347 calls,
+     * so a test that uses it twice leans on the class to answer as ever behind the 512th call, as it does.
+     */
     static long digestOf(LinkEstablisher x, int savedStates, int ageing, int noise) {
         long h = 12164;
         long[] first = {x.errorCount(0), x.errorCount(1), savedStates, x.time(), ageing, noise, x.transmitted(),

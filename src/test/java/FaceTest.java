@@ -44,10 +44,23 @@ final class FaceTest {
         Check.holds("the constructor is public", Modifier.isPublic(constructors[0].getModifiers()));
         same("methods", publicMethods(face), METHODS);
         same("constants", publicConstants(face), CONSTANTS);
+        noHiddenMethodNamedAsAPublicOne(face, face);
         for (Class<?> inside : face.getDeclaredClasses()) {
+            noHiddenMethodNamedAsAPublicOne(face, inside);
             int modifiers = inside.getModifiers();
             Check.holds(inside + " is private or package-visible, and static", Modifier.isStatic(modifiers)
                 && !Modifier.isPublic(modifiers) && !Modifier.isProtected(modifiers));
+        }
+    }
+
+    private static void noHiddenMethodNamedAsAPublicOne(Class<?> face, Class<?> where) {
+        TreeSet<String> publicNames = new TreeSet<>();
+        for (Method method : face.getMethods()) {
+            publicNames.add(method.getName());
+        }
+        for (Method method : where.getDeclaredMethods()) {
+            Check.holds(where.getSimpleName() + "." + method.getName() + " has a name of its own",
+                Modifier.isPublic(method.getModifiers()) || !publicNames.contains(method.getName()));
         }
     }
 

@@ -18,7 +18,7 @@ final class LanguageTest {
             Check.holds("no " + word, !Pattern.compile(bounded).matcher(code).find());
         }
         imports(code);
-        publicTypes(code);
+        classesAndStaticFields(code);
         methodLengths(code);
         Check.finish("LanguageTest");
     }
@@ -31,7 +31,7 @@ final class LanguageTest {
         }
     }
 
-    private static void publicTypes(String code) {
+    private static void classesAndStaticFields(String code) {
         Matcher types = Pattern.compile("\\b(class|record|enum|interface)\\s+(\\w+)").matcher(code);
         int count = 0;
         while (types.find()) {

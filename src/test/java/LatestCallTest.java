@@ -85,28 +85,48 @@ final class LatestCallTest {
         words(x, 24, 65536 * LinkEstablisher.ACKNOWLEDGE + 256 * 0 + 1);
     }
 
-    /** CALL, RESPONSE and ACKNOWLEDGE words stay in sight where they are the last that was sent. */
+    /** With every quality a call and a net call end behind some word, and that word stays in sight. */
     private static void promises13And14Noise() {
-        for (int quality = 0; quality <= 30; quality++) {
-            LinkEstablisher x = new LinkEstablisher();
-            x.setScan(0, 1);
-            x.setScan(1, 1);
-            x.setQuality(0, 1, 0, quality);
-            x.setNoise(1000 + quality);
+        int[] callAddresses = {1, 0, 1};
+        int[] netCallAddresses = {255, 0, 255};
+        boolean[][] seen = new boolean[2][4];
+        for (int i = 0; i < 31 * 20; i++) {
+            LinkEstablisher x = noisy(i % 31, 1000 + i);
             x.call(0, 1);
-            int sent = x.transmitted();
-            int address = sent == 2 ? 0 : 1;
-            int word = 65536 * (sent + 1) + 256 * address + (1 - address);
-            int[] copies = copies(word, quality, Check.noiseAfter(1000 + quality, 72 * (sent - 1)));
-            int unanimous = 0;
-            for (int bit = 0; bit < 24; bit++) {
-                int ones = (copies[0] >> bit & 1) + (copies[1] >> bit & 1) + (copies[2] >> bit & 1);
-                unanimous += ones % 3 == 0 ? 1 : 0;
-            }
-            words(x, unanimous, x.vote(copies[0], copies[1], copies[2]));
-            Check.due("digest(): the noise state", x.digest(),
-                Check.digestOf(x, 4, 10, Check.noiseAfter(1000 + quality, 72 * sent)));
+            lastWordIsAsDue(x, callAddresses, i % 31, 1000 + i);
+            seen[0][x.transmitted()] = true;
+            LinkEstablisher y = noisy(i % 31, 1000 + i);
+            y.netCall(0, 2);
+            lastWordIsAsDue(y, netCallAddresses, i % 31, 1000 + i);
+            seen[1][y.transmitted()] = true;
         }
+        for (int words = 1; words <= 3; words++) {
+            Check.holds("some call ended behind " + words + " words", seen[0][words]);
+            Check.holds("some net call ended behind " + words + " words", seen[1][words]);
+        }
+    }
+
+    private static LinkEstablisher noisy(int quality, int noise) {
+        LinkEstablisher x = new LinkEstablisher();
+        x.setScan(0, 1);
+        x.setScan(1, 1);
+        x.setQuality(0, 1, 0, quality);
+        x.setNoise(noise);
+        return x;
+    }
+
+    private static void lastWordIsAsDue(LinkEstablisher x, int[] addresses, int quality, int noise) {
+        int sent = x.transmitted();
+        int word = 65536 * (sent + 1) + 256 * addresses[sent - 1] + (sent == 2 ? 1 : 0);
+        int[] copies = copies(word, quality, Check.noiseAfter(noise, 72 * (sent - 1)));
+        int unanimous = 0;
+        for (int bit = 0; bit < 24; bit++) {
+            int ones = (copies[0] >> bit & 1) + (copies[1] >> bit & 1) + (copies[2] >> bit & 1);
+            unanimous += ones % 3 == 0 ? 1 : 0;
+        }
+        words(x, unanimous, x.vote(copies[0], copies[1], copies[2]));
+        Check.due("digest(): the noise state", x.digest(),
+            Check.digestOf(x, 4, 10, Check.noiseAfter(noise, 72 * sent)));
     }
 
     private static int[] copies(int word, int quality, int noise) {

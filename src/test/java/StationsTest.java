@@ -104,7 +104,8 @@ final class StationsTest {
     }
 
     private static void promise19Effective() {
-        LinkEstablisher x = Check.quiet();
+        LinkEstablisher x = new LinkEstablisher();
+        x.setQuality(0, 1, 2, 30);
         x.setAgeing(7);
         x.sound(0, 2);
         for (int age = 0; age < 230; age++) {

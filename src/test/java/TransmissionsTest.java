@@ -186,6 +186,19 @@ final class TransmissionsTest {
         Check.due("a call without success is saved, too", x.undo(), 3);
         Check.due("attempts() after undo()", x.attempts(), 0);
 
+        LinkEstablisher y = Check.quiet();
+        for (int channel = 0; channel < 8; channel++) {
+            y.setQuality(0, 1, channel, 0);
+        }
+        Check.due("eight attempts without success", y.call(0, 1), -1);
+        Check.due("attempts()", y.attempts(), 8);
+        Check.due("lastChannel()", y.lastChannel(), 7);
+        Check.due("time()", y.time(), 64);
+        Check.due("transmitted()", y.transmitted(), 8);
+        y.setQuality(0, 1, 7, 30);
+        Check.due("the eighth attempt succeeds", y.call(0, 1), 7);
+        Check.due("attempts()", y.attempts(), 8);
+
         failedHandshake(1);
         failedHandshake(2);
     }
