@@ -472,7 +472,7 @@ public final class LinkEstablisher {
 
         int agedScore(int station, int other, int channel) {
             int measured = scores[cell(station, other, channel)];
-            if (measured == NONE) {
+            if (measured == NONE || ageing < 1) {
                 return NONE;
             }
             int age = now - scoreTimes[cell(station, other, channel)];

@@ -24,27 +24,65 @@ final class Check {
         due(what, fact ? 1 : 0, 1);
     }
 
-    /** A wrong call answers the code, and leaves the object as another wrong call of that kind does. */
+    /**
+     * A wrong call answers the code, adds 1 to the counter of its error, and changes nothing else: neither the
+     * present state nor one that undo brings back.
+     */
     static void refused(String what, Supplier<LinkEstablisher> history, int code, Function<LinkEstablisher, Integer> call) {
         LinkEstablisher tried = history.get();
-        LinkEstablisher other = history.get();
+        LinkEstablisher untouched = history.get();
+        int invalid = code == LinkEstablisher.INVALID ? 1 : 0;
         due(what, call.apply(tried), code);
-        int wrong = code == LinkEstablisher.INVALID ? other.errorCount(9) : other.hangUp(unlinked(other));
-        due("the other wrong call", wrong, code);
-        due(what + " then errorCount(0)", tried.errorCount(0), other.errorCount(0));
-        due(what + " then errorCount(1)", tried.errorCount(1), other.errorCount(1));
-        due(what + " then digest()", tried.digest(), other.digest());
-        due(what + " then undo()", tried.undo(), other.undo());
-        due(what + " then undo() and digest()", tried.digest(), other.digest());
-    }
-
-    private static int unlinked(LinkEstablisher x) {
-        for (int station = 0; station < 5; station++) {
-            if (x.link(station) == 0) {
-                return station;
+        due(what + " then errorCount(0)", tried.errorCount(0), untouched.errorCount(0) + invalid);
+        due(what + " then errorCount(1)", tried.errorCount(1), untouched.errorCount(1) + 1 - invalid);
+        for (int undone = 0; undone <= 5; undone++) {
+            String where = what + " then " + undone + " times undo()";
+            due(where + " and digest()", tried.digest() - errorsInDigest(tried),
+                untouched.digest() - errorsInDigest(untouched));
+            due(where + " and quality()", qualities(tried), qualities(untouched));
+            int left = untouched.undo();
+            due(where + " and undo()", tried.undo(), left);
+            if (left < 0) {
+                return;
             }
         }
-        throw new IllegalStateException("the history links every station");
+        holds(what + ": the undo stack has an end", false);
+    }
+
+    /** What the error counters add to the digest: they are the first two of its 347 values. */
+    static long errorsInDigest(LinkEstablisher x) {
+        return x.errorCount(0) * power31(346) + x.errorCount(1) * power31(345);
+    }
+
+    /** What the number of saved states adds to the digest: it is the third value. */
+    static long savedInDigest(int savedStates) {
+        return savedStates * power31(344);
+    }
+
+    private static long power31(int exponent) {
+        long power = 1;
+        for (int i = 0; i < exponent; i++) {
+            power *= 31;
+        }
+        return power;
+    }
+
+    /** The qualities are no part of the digest. */
+    static long qualities(LinkEstablisher x) {
+        long hash = 0;
+        for (int station = 0; station < 5; station++) {
+            for (int other = station + 1; other < 5; other++) {
+                for (int channel = 0; channel < 8; channel++) {
+                    hash = 31 * hash + x.quality(station, other, channel);
+                }
+            }
+        }
+        return hash;
+    }
+
+    /** All that undo brings back, whatever the error counters and the undo stack are. */
+    static long state(LinkEstablisher x, int savedStates) {
+        return 37 * (x.digest() - errorsInDigest(x) - savedInDigest(savedStates)) + qualities(x);
     }
 
     /** Wrong in one argument: values below and above the range and the extreme ones. */
@@ -104,6 +142,37 @@ final class Check {
         return (int) state;
     }
 
+    /** The three copies of a word that arrive, and with them what is drawn. */
+    static int[] copies(int word, int quality, int noise) {
+        int[] copies = {word, word, word};
+        long state = noise;
+        for (int i = 0; i < 72; i++) {
+            state = (state * 1103515245L + 12345L) % 2147483648L;
+            if (2 * (state / 65536 % 31) > 30 + quality) {
+                copies[i / 24] ^= 1 << i % 24;
+            }
+        }
+        return copies;
+    }
+
+    static int majority(int[] copies) {
+        int word = 0;
+        for (int bit = 0; bit < 24; bit++) {
+            int ones = (copies[0] >> bit & 1) + (copies[1] >> bit & 1) + (copies[2] >> bit & 1);
+            word += ones >= 2 ? 1 << bit : 0;
+        }
+        return word;
+    }
+
+    static int unanimous(int[] copies) {
+        int unanimous = 0;
+        for (int bit = 0; bit < 24; bit++) {
+            int ones = (copies[0] >> bit & 1) + (copies[1] >> bit & 1) + (copies[2] >> bit & 1);
+            unanimous += ones % 3 == 0 ? 1 : 0;
+        }
+        return unanimous;
+    }
+
     /** A network without noise: every pair has the quality 30 on every channel. */
     static LinkEstablisher quiet() {
         LinkEstablisher x = new LinkEstablisher();
@@ -121,6 +190,24 @@ final class Check {
     static LinkEstablisher linked() {
         LinkEstablisher x = quiet();
         due("linked(): call(0, 1)", x.call(0, 1), 0);
+        return x;
+    }
+
+    /**
+     * Stations 0 and 1 are linked on channel 0 and 2 to 4 are free; both errors have been counted; the undo stack is
+     * full, an older state has been dropped, and the states on it differ in most that undo brings back.
+     */
+    static LinkEstablisher busy() {
+        LinkEstablisher x = new LinkEstablisher();
+        x.setQuality(0, 1, 0, 30);
+        x.setAgeing(3);
+        due("busy(): call(0, 1)", x.call(0, 1), 0);
+        due("busy(): setQuality(2, 3, 5, 30)", x.setQuality(2, 3, 5, 30), 15);
+        due("busy(): sound(2, 5)", x.sound(2, 5) & 8, 8);
+        x.errorCount(2);
+        x.setScan(4, 6);
+        x.hangUp(4);
+        x.pass(3);
         return x;
     }
 

@@ -118,25 +118,9 @@ final class LatestCallTest {
     private static void lastWordIsAsDue(LinkEstablisher x, int[] addresses, int quality, int noise) {
         int sent = x.transmitted();
         int word = 65536 * (sent + 1) + 256 * addresses[sent - 1] + (sent == 2 ? 1 : 0);
-        int[] copies = copies(word, quality, Check.noiseAfter(noise, 72 * (sent - 1)));
-        int unanimous = 0;
-        for (int bit = 0; bit < 24; bit++) {
-            int ones = (copies[0] >> bit & 1) + (copies[1] >> bit & 1) + (copies[2] >> bit & 1);
-            unanimous += ones % 3 == 0 ? 1 : 0;
-        }
-        words(x, unanimous, x.vote(copies[0], copies[1], copies[2]));
+        int[] copies = Check.copies(word, quality, Check.noiseAfter(noise, 72 * (sent - 1)));
+        words(x, Check.unanimous(copies), Check.majority(copies));
         Check.due("digest(): the noise state", x.digest(),
             Check.digestOf(x, 4, 10, Check.noiseAfter(noise, 72 * sent)));
-    }
-
-    private static int[] copies(int word, int quality, int noise) {
-        int[] copies = {word, word, word};
-        for (int i = 0; i < 72; i++) {
-            noise = Check.noiseAfter(noise, 1);
-            if (2 * (noise / 65536 % 31) > 30 + quality) {
-                copies[i / 24] ^= 1 << i % 24;
-            }
-        }
-        return copies;
     }
 }
