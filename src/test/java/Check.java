@@ -80,9 +80,9 @@ final class Check {
         return hash;
     }
 
-    /** All that undo brings back, whatever the error counters and the undo stack are. */
+    /** What the digest tells of all that undo brings back, whatever the error counters and the undo stack are. */
     static long state(LinkEstablisher x, int savedStates) {
-        return 37 * (x.digest() - errorsInDigest(x) - savedInDigest(savedStates)) + qualities(x);
+        return x.digest() - errorsInDigest(x) - savedInDigest(savedStates);
     }
 
     /** Wrong in one argument: values below and above the range and the extreme ones. */
