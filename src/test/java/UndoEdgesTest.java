@@ -151,15 +151,19 @@ final class UndoEdgesTest {
         LinkEstablisher x = new LinkEstablisher();
         List<Integer> stack = new ArrayList<>();
         int time = 0;
+        int dropped = 0;
+        int refused = 0;
         for (int i = 0; i < 250; i++) {
-            if (i * i % 17 < 10 - i % 3) {
+            if (i * i % 31 < (i / 25 % 2 == 0 ? 20 : 8)) {
                 stack.add(time);
                 time += 1 + i;
                 Check.due("step " + i + ": pass", x.pass(1 + i), time);
                 if (stack.size() > 4) {
                     stack.remove(0);
+                    dropped++;
                 }
             } else if (stack.isEmpty()) {
+                refused++;
                 Check.due("step " + i + ": undo() of nothing", x.undo(), -3);
             } else {
                 time = stack.remove(stack.size() - 1);
@@ -167,6 +171,7 @@ final class UndoEdgesTest {
             }
             Check.due("step " + i + ": time()", x.time(), time);
         }
+        Check.holds("the run dropped states and ran the stack empty", dropped > 20 && refused > 10);
     }
 
     private static void failedCallsLeaveTheFullStack() {
