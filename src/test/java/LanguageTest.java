@@ -1,10 +1,13 @@
 import java.io.IOException;
+import java.lang.reflect.Field;
+import java.lang.reflect.Method;
+import java.lang.reflect.Modifier;
 import java.nio.file.Files;
 import java.nio.file.Path;
 import java.util.regex.Matcher;
 import java.util.regex.Pattern;
 
-/** The rules of LANGUAGE.md that a look at the source can tell. .ci/run starts it in the project's folder. */
+/** The rules of LANGUAGE.md that a look at the source and its classes can tell. .ci/run starts it in the project's folder. */
 final class LanguageTest {
     private static final String[] RULED_OUT = {"throw", "throws", "try", "catch", "finally", "synchronized", "assert",
         "volatile", "native", "package", "protected", "var", "Object", "System\\.(?!arraycopy\\b)\\w+", "\\w+Exact",
@@ -20,6 +23,10 @@ final class LanguageTest {
         imports(code);
         classesAndStaticFields(code);
         methodLengths(code);
+        sizes(LinkEstablisher.class);
+        for (Class<?> inside : LinkEstablisher.class.getDeclaredClasses()) {
+            sizes(inside);
+        }
         Check.finish("LanguageTest");
     }
 
@@ -52,6 +59,20 @@ final class LanguageTest {
                 Check.holds("line " + (start + 1) + " begins a method of at most sixty lines", i - start < 60);
                 start = -1;
             }
+        }
+    }
+
+    private static void sizes(Class<?> type) {
+        int fields = 0;
+        for (Field field : type.getDeclaredFields()) {
+            boolean isStatic = Modifier.isStatic(field.getModifiers());
+            fields += isStatic ? 0 : 1;
+            Check.holds(type + ": the static field " + field.getName() + " is final",
+                !isStatic || Modifier.isFinal(field.getModifiers()));
+        }
+        Check.holds(type + " has at most twenty fields, but has " + fields, fields <= 20);
+        for (Method method : type.getDeclaredMethods()) {
+            Check.holds(method + " takes at most seven parameters", method.getParameterCount() <= 7);
         }
     }
 
